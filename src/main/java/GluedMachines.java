@@ -36,13 +36,17 @@ public final class GluedMachines {
     private final Writing writing = new Writing();
     private final Formula[] formulas = new Formula[MOST_FORMULAS];
     private int formulaCount = 0;
-    private final Model model = new Model();
-    private final Duties duties = new Duties(model);
-    private final Run run = new Run(model);
+    private final Model model;
+    private final Duties duties;
+    private final Run run;
     private final int[] shown = new int[ROW];
     private boolean shows = false;
 
     public GluedMachines() {
+        Model told = new Model();
+        model = told;
+        duties = new Duties(told);
+        run = new Run(told);
     }
 
     public void variable(int v, int size, int initial) throws IllegalArgumentException {
@@ -415,7 +419,7 @@ public final class GluedMachines {
             return (mentions & LOWER_VARIABLES) != 0;
         }
 
-        int in(int[] row) {
+        int answerIn(int[] row) {
             for (int i = words.length - 1; i >= 0; i--) {
                 int w = words[i];
                 if (w <= Words.LAST_NUMBER) {
@@ -476,19 +480,20 @@ public final class GluedMachines {
         }
 
         boolean allows(int[] row) {
-            return guard == null || guard.in(row) != 0;
+            return guard == null || guard.answerIn(row) != 0;
         }
 
         /** The kinds of its duties, a bit for each. */
         int dutyKinds() {
             if (machine == UPPER) {
-                return 1 << RANGE | 1 << UPPER_KEEPING;
+                return (1 << RANGE) | (1 << UPPER_KEEPING);
             }
-            return 1 << RANGE | 1 << LOWER_KEEPING | 1 << (refined == null ? LOWERING : STRONGER);
+            int last = refined == null ? LOWERING : STRONGER;
+            return (1 << RANGE) | (1 << LOWER_KEEPING) | (1 << last);
         }
 
         boolean hasDuty(int kind) {
-            return (dutyKinds() & 1 << kind) != 0;
+            return (dutyKinds() & (1 << kind)) != 0;
         }
 
         /** What its formulas read, without those of the event that it refines. */
@@ -566,7 +571,7 @@ public final class GluedMachines {
                 Formula[] all = machine == UPPER ? upper : lower;
                 boolean holds = true;
                 for (int i = 0; i < count(machine) && holds; i++) {
-                    holds = all[i].in(state) != 0;
+                    holds = all[i].answerIn(state) != 0;
                 }
                 known[cell] |= bit;
                 found[cell] |= holds ? bit : 0L;
@@ -576,7 +581,8 @@ public final class GluedMachines {
 
         /** Three values, two bits for each: no size is above 4. */
         private static int codeOf(int[] state, int first) {
-            return ((state[first] & 3) << 4) | ((state[first + 1] & 3) << 2) | (state[first + 2] & 3);
+            int high = ((state[first] & 3) << 2) | (state[first + 1] & 3);
+            return (high << 2) | (state[first + 2] & 3);
         }
     }
 
@@ -606,7 +612,7 @@ public final class GluedMachines {
         }
 
         int variantIn(int[] state) {
-            return variant == null ? 0 : variant.in(state);
+            return variant == null ? 0 : variant.answerIn(state);
         }
 
         /**
@@ -629,7 +635,7 @@ public final class GluedMachines {
         boolean staysWithin(Event of, int[] row) {
             for (int v = 0; v < VARIABLES; v++) {
                 if (of.assigned[v] != null) {
-                    after[v] = of.assigned[v].in(row);
+                    after[v] = of.assigned[v].answerIn(row);
                     if (!isWithin(after[v], sizes[v])) {
                         return false;
                     }
@@ -650,7 +656,7 @@ public final class GluedMachines {
         /** The refined event sees the same state, but the witness as its parameter. */
         private void lookAbove(Event of, int[] row) {
             System.arraycopy(row, 0, above, 0, ROW);
-            above[PARAMETER_PLACE] = of.witness == null ? 0 : of.witness.in(row);
+            above[PARAMETER_PLACE] = of.witness == null ? 0 : of.witness.answerIn(row);
         }
     }
 
@@ -742,7 +748,7 @@ public final class GluedMachines {
             rows = 1;
             for (int i = 0; i < ROW; i++) {
                 int size = i == PARAMETER_PLACE ? range : model.sizes[i];
-                limits[i] = (mentions & 1 << i) != 0 ? size : 1;
+                limits[i] = (mentions & (1 << i)) != 0 ? size : 1;
                 rows *= limits[i];
                 row[i] = 0;
             }
