@@ -38,6 +38,10 @@ public final class DutyBoundaryTest {
         firstByEachPlace();
         lastOfAll();
         upperDutiesShowNoLowerValues();
+        whatAnInvariantAloneReads();
+        whatAGuardAloneReads();
+        whatAnUpperEventAloneReads();
+        whatAVariantAloneReads();
         parameterOfBeginningAndMoving();
         openOfNothing();
         openOfAll();
@@ -599,6 +603,90 @@ public final class DutyBoundaryTest {
         broken("2: no lower values", m, 2, e, "0 0 2 0 0 0 3");
         m.assign(e, 2, Expect.write(m, 50, 22, 2));
         broken("1: no lower values", m, 1, e, "0 0 2 0 0 0 3");
+    }
+
+    /** A state is looked at though the event itself says nothing of the variable. */
+    private static void whatAnInvariantAloneReads() {
+        for (int v = 0; v <= 5; v++) {
+            for (int machine = v < 3 ? 0 : 1; machine <= 1; machine++) {
+                GluedMachines m = allOfSizeFour();
+                String what = "invariant of " + machine + " on variable " + v;
+                m.invariant(machine, Expect.write(m, 53, 3, 20 + v));
+                int nine = Expect.write(m, 9);
+                int up = m.event(0, 1, -1);
+                int low = m.event(1, 1, up);
+                int fresh = m.event(1, 1, -1);
+                m.assign(up, 0, nine);
+                broken(what + ": 1 above", m, 1, up, machine == 0 ? withOne(v, 3) : ZEROS);
+                m.assign(up, 0, Expect.write(m, 0));
+                m.assign(low, 3, nine);
+                broken(what + ": 1 below", m, 1, low, withOne(v, 3));
+                m.witness(low, nine);
+                broken(what + ": 4", m, 4, low, withOne(v, 3));
+                broken(what + ": 5", m, 5, fresh, withOne(v, 3));
+                int never = Expect.write(m, 53, 1, 2);
+                m.guard(low, never);
+                m.guard(fresh, never);
+                broken(what + ": 6", m, 6, 0, withOne(v, 3));
+                m.assign(v < 3 ? up : fresh, v, Expect.write(m, 2));
+                m.guard(fresh, Expect.write(m, 53, 1, 1));
+                if (v >= 3) {
+                    broken(what + ": 3", m, 3, fresh, withOne(v, 3));
+                } else if (machine == 0) {
+                    broken(what + ": 2", m, 2, up, withOne(v, 3));
+                }
+            }
+        }
+    }
+
+    private static void whatAGuardAloneReads() {
+        for (int place = 0; place <= 6; place++) {
+            GluedMachines m = allOfSizeFour();
+            int e = m.event(1, 4, -1);
+            m.assign(e, 3, Expect.write(m, 9));
+            m.guard(e, Expect.write(m, 53, wordOf(place), 3));
+            broken("guard on " + place + ": 1", m, 1, e, withOne(place, 3));
+            m.guard(e, Expect.write(m, 54, wordOf(place), 3));
+            if (place < 6) {
+                broken("guard on " + place + ": 6", m, 6, 0, withOne(place, 3));
+            } else {
+                whole("guard on the parameter: 6", m, 6, 0);
+            }
+        }
+    }
+
+    private static void whatAnUpperEventAloneReads() {
+        for (int v = 0; v <= 2; v++) {
+            GluedMachines m = allOfSizeFour();
+            m.variable(0, 2, 0);
+            m.variable(3, 2, 0);
+            int up = m.event(0, 1, -1);
+            int low = m.event(1, 4, up);
+            int last = v == 0 ? 1 : 3;
+            m.guard(up, Expect.write(m, 54, 20 + v, last));
+            broken("upper guard on " + v + ": 4", m, 4, low, withOne(v, last));
+            m.invariant(1, Expect.write(m, 53, 23, 0));
+            m.assign(low, 3, Expect.write(m, 1));
+            m.assign(up, 0, Expect.write(m, 51, 20 + v, last));
+            broken("upper assignment of " + v + ": 3", m, 3, low, withOne(v, last));
+        }
+        for (int place = 0; place <= 6; place++) {
+            GluedMachines m = allOfSizeFour();
+            int low = m.event(1, 4, m.event(0, 3, -1));
+            m.witness(low, Expect.write(m, wordOf(place)));
+            broken("witness of " + place + ": 4", m, 4, low, withOne(place, 3));
+        }
+    }
+
+    private static void whatAVariantAloneReads() {
+        for (int v = 0; v <= 5; v++) {
+            GluedMachines m = allOfSizeFour();
+            int e = m.event(1, 1, -1);
+            m.variant(Expect.write(m, 51, 2, 20 + v));
+            broken("variant of " + v + ": not less", m, 5, e, ZEROS);
+            m.assign(e, 3, Expect.write(m, 9));
+            broken("variant of " + v + ": below 0", m, 5, e, withOne(v, 3));
+        }
     }
 
     private static void parameterOfBeginningAndMoving() {

@@ -309,7 +309,8 @@ public final class FormulaBoundaryTest {
         isNone("24 words without an end", open);
         int[] much = Arrays.copyOf(sums, 24);
         isNone("23 words and one more", much);
-        int[] ifs = {58, 57, 54, 1, 2, 3, 58, 54, 2, 1, 3, 58, 53, 1, 2, 4, 58, 53, 1, 1, 5, 50, 2, 3};
+        int[] ifs = {58, 57, 54, 1, 2, 3, 58, 54, 2, 1, 3, 58, 53, 1, 2, 4, 58, 53, 1, 1, 5, 50, 2,
+            3};
         isOne("24 words with if", ifs);
     }
 
@@ -407,6 +408,7 @@ public final class FormulaBoundaryTest {
     private static void noFormulaWhenFull() {
         GluedMachines m = Workbench.fullOfFormulas();
         Expect.badArgument("4: none, when full", () -> m.formula());
+        Expect.badArgument("4: nothing, when full", () -> m.formula());
         Expect.same("4: nothing is written any more", 1, m.word(9));
         Expect.badState("4: one, when full", () -> m.formula());
     }

@@ -1,4 +1,4 @@
-/** Promises 5 to 10 at their bounds: what is taken last and refused first, and what is left then. */
+/** Promises 5 to 10 at their bounds: what is taken last and refused first, and what is left. */
 public final class ModelBoundaryTest {
     private static final int[] FAR = {Integer.MIN_VALUE, -1000, 1000, Integer.MAX_VALUE};
     private static final int UP = Workbench.UPPER;
@@ -381,7 +381,8 @@ public final class ModelBoundaryTest {
         Expect.fine("8: formula 0 of one", () -> m.witness(e, 0));
         Expect.badArgument("8: formula 1 of one", () -> m.witness(e, 1));
         Workbench.badArgument("8: formula -1", x -> x.witness(LOW, -1));
-        Workbench.badArgument("8: formula behind the last", x -> x.witness(LOW, Workbench.FORMULAS));
+        int behind = Workbench.FORMULAS;
+        Workbench.badArgument("8: formula behind the last", x -> x.witness(LOW, behind));
         for (int far : FAR) {
             Workbench.badArgument("8: formula " + far, x -> x.witness(LOW, far));
         }

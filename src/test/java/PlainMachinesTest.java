@@ -119,10 +119,12 @@ public final class PlainMachinesTest {
 
     private void write(boolean truth, boolean upperAlone, boolean parameter) {
         List<Integer> words = new ArrayList<>();
+        // Some get more words than a formula may have.
+        int depth = random.nextInt(6) == 0 ? 4 : 2;
         if (truth) {
-            addTruth(words, 2, upperAlone, parameter);
+            addTruth(words, depth, upperAlone, parameter);
         } else {
-            addNumber(words, 2, upperAlone, parameter);
+            addNumber(words, depth, upperAlone, parameter);
         }
         words.forEach(this::word);
         Object number = both("formula", m::formula, plain::formula);

@@ -1,3 +1,5 @@
+import java.util.Arrays;
+
 /**
  * The section Terms on formulas at its bounds: the results of -999 .. 999, LESS and EQUAL beside
  * equal numbers, IF and the truths. A number is looked at as a witness, which the upper event gets
@@ -23,6 +25,7 @@ public final class ResultBoundaryTest {
         boundsCompared();
         ifTakesOne();
         truthsOfTruths();
+        longestFormulasAnswer();
         Expect.close();
     }
 
@@ -197,6 +200,24 @@ public final class ResultBoundaryTest {
             Expect.same("both " + both, first && second, holds(of(55, one, two)));
             Expect.same("either " + both, first || second, holds(of(56, one, two)));
             Expect.same("not " + first, !first, holds(of(57, one)));
+        }
+    }
+
+    // "at most 24 words": the last word of the longest formula counts too.
+
+    private static void longestFormulasAnswer() {
+        int[] ninetyNine = new int[23];
+        Arrays.fill(ninetyNine, 0, 11, 50);
+        Arrays.fill(ninetyNine, 11, 22, 9);
+        same("11 nines and 0, 23 words", of(52, n(9), of(50, TEN, n(1))), ninetyNine);
+        for (int last = 0; last <= 2; last++) {
+            int[] nots = new int[24];
+            Arrays.fill(nots, 0, 21, 57);
+            System.arraycopy(new int[] {53, 1, last}, 0, nots, 21, 3);
+            Expect.same("21 times not, 24 words", last != 1, holds(nots));
+            int[] ifs = {58, 57, 54, 1, 2, 3, 58, 54, 2, 1, 3, 58, 53, 1, 2, 4, 58, 53, 1, 2, 5,
+                50, 2, last};
+            same("the last of four ifs, 24 words", n(2 + last), ifs);
         }
     }
 }

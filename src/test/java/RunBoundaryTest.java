@@ -45,6 +45,7 @@ public final class RunBoundaryTest {
         rightByAllInvariants();
         rightWithoutARun();
         rightOfEveryState();
+        rightOfEachMachineApart();
         fiveHundredAndTwelveCalls();
         Expect.close();
     }
@@ -569,6 +570,26 @@ public final class RunBoundaryTest {
                     m.variable(v, 4, other);
                     Expect.same("20: variable " + v + " is " + other, other == value, m.right());
                 }
+            }
+        }
+    }
+
+    /** What was found of an upper part is not taken for what was found of a lower one. */
+    private static void rightOfEachMachineApart() {
+        for (int others = 0; others <= 3; others++) {
+            GluedMachines m = new GluedMachines();
+            for (int v = 0; v <= 5; v++) {
+                m.variable(v, 4, others);
+            }
+            m.invariant(0, Expect.write(m, 57, 53, 22, 1));
+            m.invariant(1, Expect.write(m, 57, 53, 25, 2));
+            for (int i = 0; i < 32; i++) {
+                int above = i / 4 % 4;
+                int below = i % 4;
+                m.variable(2, 4, above);
+                m.variable(5, 4, below);
+                Expect.same("20: " + above + " above, " + below + " below",
+                        above != 1 && below != 2, m.right());
             }
         }
     }
